@@ -133,8 +133,10 @@ public final class TwoBooks {
         }
         pairing.gather(books[0], books[1]);
         for (int r = 0; r < pairing.rows; r++) {
+            Line first = books[0].lines[pairing.rowLine[r]];
             for (int c = 0; c < pairing.columns; c++) {
-                pairing.seats.worth[r][c] = fitOf(books[0].lines[pairing.rowLine[r]], books[1].lines[pairing.columnLine[c]]);
+                Line second = books[1].lines[pairing.columnLine[c]];
+                pairing.seats.worth[r][c] = fitOf(first, second);
             }
         }
         pairing.find();

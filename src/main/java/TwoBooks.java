@@ -331,11 +331,6 @@ public final class TwoBooks {
     }
 
     public int explain() {
-        int difference = booksDifference();
-        if (difference == 0) {
-            explanation.explainNothing();
-            return 0;
-        }
         if (books[0].breaksAged(0, now) + books[1].breaksAged(0, now) + countUneven() > MOST_EXPLAINED) {
             return BIG;
         }
@@ -347,7 +342,7 @@ public final class TwoBooks {
                 explanation.add(KIND_GROUP, g, groups[g].difference());
             }
         }
-        return explanation.find(difference) ? explanation.many : NO_SUCH_SET;
+        return explanation.find(booksDifference()) ? explanation.many : NO_SUCH_SET;
     }
 
     public int explained(int j, int what) {
@@ -1149,10 +1144,6 @@ public final class TwoBooks {
         final int[] chosenKind = new int[MOST_EXPLAINED];
         final int[] chosenNumber = new int[MOST_EXPLAINED];
         int many = 0;
-
-        void explainNothing() {
-            many = 0;
-        }
 
         void start() {
             things = 0;

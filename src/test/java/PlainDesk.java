@@ -342,10 +342,6 @@ final class PlainDesk {
     }
 
     int explain() {
-        if (sum(0) == 0) {
-            explained = new ArrayList<>();
-            return 0;
-        }
         List<int[]> row = new ArrayList<>();
         for (int i : open(0)) row.add(new int[] {0, i, at(0, i).amount});
         for (int i : open(1)) row.add(new int[] {1, i, -at(1, i).amount});

@@ -699,6 +699,26 @@ public final class PromisesTest {
         due("18 and an even GROUP", x.explain(), 18);
     }
 
+    private static void explainNoDifferenceAtItsLimit() {
+        TwoBooks x = desk(of(1, 2, 3, 4, 5, 6, 7, 8, 9), of(9, 8, 7, 6, 5, 4, 3, 2, 1));
+        due("no DIFFERENCE, 18", x.explain(), 0);
+        due("nothing told", x.explained(0, 0), -1);
+        x.line(0, 10, 0, 0);
+        x.hand(9, 8);
+        // 10 of {1 .. 9, -9 .. -2, the GROUP's 9}: {1, 9}
+        due("18 and a DIFFERENCE", x.explain(), 2);
+        due("the second", x.explained(1, 0) * 100 + x.explained(1, 1), 8);
+        x.line(1, 10, 0, 0);
+        due("no DIFFERENCE, 19", x.sum(0), 0);
+        due("no DIFFERENCE, 19", x.explain(), -4);
+        due("what is refused changes nothing", x.explained(1, 1), 8);
+        x.part(0);
+        due("no DIFFERENCE, 20", x.explain(), -4);
+        x.hand(9, 9);
+        due("no DIFFERENCE, 18 and an even GROUP", x.explain(), 0);
+        due("nothing told then", x.explained(0, 0), -1);
+    }
+
     private static void explained() {
         TwoBooks x = desk(of(10, 20), of(4, 50));
         x.hand(0, 0);
@@ -824,7 +844,7 @@ public final class PromisesTest {
         promise = 21; broken();
         promise = 22; sum();
         promise = 23; as();
-        promise = 24; explain(); explainAtItsLimit();
+        promise = 24; explain(); explainAtItsLimit(); explainNoDifferenceAtItsLimit();
         promise = 25; explained();
         promise = 26; undo(); undoEnds();
         promise = 27; count();

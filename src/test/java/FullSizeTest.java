@@ -54,21 +54,27 @@ public final class FullSizeTest {
                 same("explanation " + seed + ": explained(" + j + ", " + what + ")", desk.explained(j, what), plain.explained(j, what));
     }
 
-    /** Sets of up to four among 80 lines. */
+    /** Sets of up to four among 80 lines; each desk is asked for a part of them, to stay within 512 calls. */
     private static void sets(int seed) {
         Random chance = new Random(seed);
-        TwoBooks desk = new TwoBooks();
-        PlainDesk plain = new PlainDesk();
         int most = seed % 3 == 0 ? 1000000 : seed % 3 == 1 ? 30 : 2000;
-        for (int i = 0; i < 80; i++)
-            line(desk, plain, 1, (1 + chance.nextInt(most)) * (chance.nextInt(4) == 0 ? -1 : 1), chance.nextInt(9) * 10000, 0);
-        line(desk, plain, 0, 1 + chance.nextInt(most), 40000, 0);
+        int[] amounts = new int[81], days = new int[81];
+        for (int i = 0; i < 81; i++) {
+            amounts[i] = (1 + chance.nextInt(most)) * (i > 0 && chance.nextInt(4) == 0 ? -1 : 1);
+            days[i] = i == 0 ? 4 : chance.nextInt(9);
+        }
         int e = seed % 3 == 2 ? 0 : chance.nextInt(3);
+        PlainDesk plain = new PlainDesk();
+        for (int i = 0; i < 81; i++) plain.line(i == 0 ? 0 : 1, amounts[i], days[i] * 10000, 0);
         int many = plain.sets(0, 0, 4, e);
-        same("sets " + seed, desk.sets(0, 0, 4, e), many);
-        for (int k = 0; k < many; k++) {
-            same("sets " + seed + ": size(" + k + ")", desk.size(k), plain.size(k));
-            for (int j = 0; j < 4; j++) same("sets " + seed + ": in(" + k + ", " + j + ")", desk.in(k, j), plain.in(k, j));
+        for (int from = 0; from <= many; from += 80) {
+            TwoBooks desk = new TwoBooks();
+            for (int i = 0; i < 81; i++) desk.line(i == 0 ? 0 : 1, amounts[i], days[i] * 10000, 0);
+            same("sets " + seed, desk.sets(0, 0, 4, e), many);
+            for (int k = from; k < from + 80; k++) {
+                same("sets " + seed + ": size(" + k + ")", desk.size(k), plain.size(k));
+                for (int j = 0; j < 4; j++) same("sets " + seed + ": in(" + k + ", " + j + ")", desk.in(k, j), plain.in(k, j));
+            }
         }
     }
 

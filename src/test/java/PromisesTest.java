@@ -1,32 +1,5 @@
 /** For each promise of the document: ordinary inputs, the edges that it names, and wrong inputs. */
-public final class PromisesTest {
-    private static final int LOW = Integer.MIN_VALUE, HIGH = Integer.MAX_VALUE;
-    private static final int BEST = 0, SET = 1, HAND = 2;
-
-    private static int wrong = 0;
-    private static int promise = 0;
-
-    private static void due(String what, long got, long want) {
-        if (got != want) {
-            wrong++;
-            System.out.println("promise " + promise + ": " + what + " answered " + got + ", due is " + want);
-        }
-    }
-
-    /** Lines of a book, of day 0, word 0 and no mark. */
-    private static TwoBooks put(TwoBooks x, int book, int... amounts) {
-        for (int amount : amounts) x.line(book, amount, 0, 0);
-        return x;
-    }
-
-    private static TwoBooks desk(int[] first, int[] second) {
-        return put(put(new TwoBooks(), 0, first), 1, second);
-    }
-
-    private static int[] of(int... numbers) {
-        return numbers;
-    }
-
+public final class PromisesTest extends DueAnswers {
     private static void newObject() {
         TwoBooks x = new TwoBooks();
         for (int what = 0; what <= 5; what++) due("count(" + what + ") of a new one", x.count(what), 0);
@@ -821,35 +794,34 @@ public final class PromisesTest {
     }
 
     public static void main(String[] args) {
-        promise = 1; newObject();
-        promise = 2; lines();
-        promise = 3; days();
-        promise = 4; terms();
-        promise = 5; told();
-        promise = 6; fits(); learning();
-        promise = 7; best(); bestAtItsLimit(); fresh();
-        promise = 8; with();
-        promise = 9; rivals();
-        promise = 10; pairs(); groupsFull(); pairsUpToFull();
-        promise = 11; sets(); setsByDays(); setsAtTheirLimit();
-        promise = 12; sizes();
-        promise = 13; linesOfSets();
-        promise = 14; set();
-        promise = 15; hands();
-        promise = 16; join();
-        promise = 17; part();
-        promise = 18; lock();
-        promise = 19; group();
-        promise = 20; breaks();
-        promise = 21; broken();
-        promise = 22; sum();
-        promise = 23; as();
-        promise = 24; explain(); explainAtItsLimit(); explainNoDifferenceAtItsLimit();
-        promise = 25; explained();
-        promise = 26; undo(); undoEnds();
-        promise = 27; count();
-        promise = 28; check();
-        System.out.println(wrong == 0 ? "all promises are kept" : wrong + " answers are not as due");
-        if (wrong != 0) System.exit(1);
+        by("promise 1"); newObject();
+        by("promise 2"); lines();
+        by("promise 3"); days();
+        by("promise 4"); terms();
+        by("promise 5"); told();
+        by("promise 6"); fits(); learning();
+        by("promise 7"); best(); bestAtItsLimit(); fresh();
+        by("promise 8"); with();
+        by("promise 9"); rivals();
+        by("promise 10"); pairs(); groupsFull(); pairsUpToFull();
+        by("promise 11"); sets(); setsByDays(); setsAtTheirLimit();
+        by("promise 12"); sizes();
+        by("promise 13"); linesOfSets();
+        by("promise 14"); set();
+        by("promise 15"); hands();
+        by("promise 16"); join();
+        by("promise 17"); part();
+        by("promise 18"); lock();
+        by("promise 19"); group();
+        by("promise 20"); breaks();
+        by("promise 21"); broken();
+        by("promise 22"); sum();
+        by("promise 23"); as();
+        by("promise 24"); explain(); explainAtItsLimit(); explainNoDifferenceAtItsLimit();
+        by("promise 25"); explained();
+        by("promise 26"); undo(); undoEnds();
+        by("promise 27"); count();
+        by("promise 28"); check();
+        end("all promises are kept");
     }
 }

@@ -2,16 +2,21 @@ import java.util.ArrayList;
 import java.util.List;
 import java.util.Random;
 
-/** Runs of calls by chance (with fixed seeds), answered by TwoBooks and by PlainDesk: they must agree. */
+/**
+ * Runs of calls by chance (with fixed seeds), answered by TwoBooks and by PlainDesk: they must agree. A run ends
+ * with the 512 calls for which the document speaks, or shortly before.
+ */
 public final class RandomRunsTest {
-    private static final int RUNS = 400;
+    private static final int RUNS = 2000;
     private static final int CALLS = 512;
+    private static final int MOST_AT_ONCE = 45;
 
     private final Random chance;
     private final TwoBooks desk = new TwoBooks();
     private final PlainDesk plain = new PlainDesk();
     private final List<String> told = new ArrayList<>();
-    private final int amounts, days, words, marks, wild, bookLimit;
+    private final int amounts, days, words, marks, wild, bookLimit, curious;
+    private int calls = 0;
     private int searches = 0;
 
     private RandomRunsTest(long seed) {
@@ -21,7 +26,8 @@ public final class RandomRunsTest {
         words = pick(1, 3, 100);
         marks = pick(1, 2, 4, 10000);
         wild = pick(0, 5, 20);
-        bookLimit = pick(3, 7, 9, 14, 80);
+        bookLimit = pick(3, 7, 9, 14, 15, 80);
+        curious = pick(2, 10, 30);
     }
 
     private int pick(int... from) {
@@ -42,6 +48,7 @@ public final class RandomRunsTest {
     }
 
     private boolean same(String call, long got, long want) {
+        calls++;
         told.add(call + " answered " + got);
         if (got != want) {
             for (String row : told) System.out.println(row);
@@ -51,11 +58,11 @@ public final class RandomRunsTest {
     }
 
     private int line(int book) {
-        return upTo(Math.max(0, desk.count(book)));
+        return upTo(plain.count(book));
     }
 
     private int group() {
-        return upTo(desk.count(2));
+        return upTo(plain.count(2));
     }
 
     private boolean comingLine() {
@@ -68,13 +75,14 @@ public final class RandomRunsTest {
 
     private boolean wholePairing() {
         boolean big = plain.breaks(0, 0) > 9 && plain.breaks(1, 0) > 9;
-        if (big && searches++ > 3) return true;
-        boolean good = same("best()", desk.best(), plain.best());
-        for (int a = -1; a <= 80; a++) {
-            good &= same("with(" + a + ")", desk.with(a), plain.with(a));
-            good &= same("rival(" + a + ")", desk.rival(a), plain.rival(a));
-        }
+        if (big && searches++ > 2) return true;
+        boolean good = same("best()", desk.best(), plain.best()) && toldPair(upTo(80)) && toldPair(line(0));
+        for (int r = 0; r < 15 && plain.broken(0, r) >= 0; r++) good &= toldPair(plain.broken(0, r));
         return good;
+    }
+
+    private boolean toldPair(int a) {
+        return same("with(" + a + ")", desk.with(a), plain.with(a)) && same("rival(" + a + ")", desk.rival(a), plain.rival(a));
     }
 
     private boolean pairs() {
@@ -85,14 +93,16 @@ public final class RandomRunsTest {
     private boolean wholeSets() {
         int book = upTo(1), i = line(book == 1 ? 1 : 0), m = 1 + upTo(3), e = chance.nextBoolean() ? upTo(amounts - 1) % 10001 : upTo(10000);
         if (plain.breaks(0, 0) + plain.breaks(1, 0) > 80 && searches++ > 8) return true;
-        boolean good = same("sets(" + book + ", " + i + ", " + m + ", " + e + ")", desk.sets(book, i, m, e), plain.sets(book, i, m, e));
-        for (int k = -1; k <= 5001; k += k < 30 ? 1 : 71) good &= toldSet(k);
-        return good && toldSet(4999) && toldSet(5000) && toldSet(Integer.MAX_VALUE);
+        int many = plain.sets(book, i, m, e);
+        boolean good = same("sets(" + book + ", " + i + ", " + m + ", " + e + ")", desk.sets(book, i, m, e), many);
+        good &= toldSet(many - 1) && toldSet(many) && toldSet(upTo(5000));
+        for (int n = 0; n < 3; n++) good &= toldSet(chance.nextInt(Math.max(many, 1)));
+        return good;
     }
 
     private boolean toldSet(int k) {
         boolean good = same("size(" + k + ")", desk.size(k), plain.size(k));
-        for (int j = -1; j < 5; j++) good &= same("in(" + k + ", " + j + ")", desk.in(k, j), plain.in(k, j));
+        for (int j = 0; j <= Math.max(0, plain.size(k)); j++) good &= same("in(" + k + ", " + j + ")", desk.in(k, j), plain.in(k, j));
         return good;
     }
 
@@ -105,10 +115,12 @@ public final class RandomRunsTest {
         boolean big = plain.breaks(0, 0) + plain.breaks(1, 0) > 12;
         if (big && searches++ > 8) return true;
         boolean good = same("explain()", desk.explain(), plain.explain());
-        for (int j = -1; j < 20; j++)
-            for (int what = -1; what < 3; what++)
-                good &= same("explained(" + j + ", " + what + ")", desk.explained(j, what), plain.explained(j, what));
-        return good;
+        for (int j = 0; j < 19 && (j == 0 || plain.explained(j - 1, 0) >= 0); j++) good &= toldThing(j, 0) && toldThing(j, 1);
+        return good && toldThing(upTo(18), upTo(1));
+    }
+
+    private boolean toldThing(int j, int what) {
+        return same("explained(" + j + ", " + what + ")", desk.explained(j, what), plain.explained(j, what));
     }
 
     private boolean byHand() {
@@ -136,34 +148,48 @@ public final class RandomRunsTest {
 
     private boolean looks() {
         boolean good = same("check()", desk.check(), plain.check());
-        for (int what = -1; what <= 7; what++) {
-            good &= same("count(" + what + ")", desk.count(what), plain.count(what));
-            good &= same("sum(" + what + ")", desk.sum(what), plain.sum(what));
-            int book = upTo(1), i = line(book == 1 ? 1 : 0), g = group(), day = upTo(desk.count(5)), age = upTo(6);
-            good &= same("told(" + book + ", " + i + ", " + what + ")", desk.told(book, i, what), plain.told(book, i, what));
-            good &= same("group(" + g + ", " + what + ")", desk.group(g, what), plain.group(g, what));
-            good &= same("as(" + day + ", " + what + ")", desk.as(day, what), plain.as(day, what));
-            good &= same("breaks(" + book + ", " + age + ")", desk.breaks(book, age), plain.breaks(book, age));
-            good &= same("broken(" + book + ", " + i + ")", desk.broken(book, i), plain.broken(book, i));
-        }
+        for (int n = chance.nextInt(12); n >= 0 && good; n--) good = look();
         return good;
+    }
+
+    private boolean look() {
+        int book = upTo(1), i = line(book == 1 ? 1 : 0), g = group(), day = upTo(plain.count(5)), what = upTo(7);
+        switch (chance.nextInt(7)) {
+            case 0: return same("count(" + what + ")", desk.count(what), plain.count(what));
+            case 1: return same("sum(" + what + ")", desk.sum(what), plain.sum(what));
+            case 2: return same("told(" + book + ", " + i + ", " + what + ")", desk.told(book, i, what), plain.told(book, i, what));
+            case 3: return same("group(" + g + ", " + what + ")", desk.group(g, what), plain.group(g, what));
+            case 4: return same("as(" + day + ", " + what / 2 + ")", desk.as(day, what / 2), plain.as(day, what / 2));
+            case 5: return same("breaks(" + book + ", " + what + ")", desk.breaks(book, what), plain.breaks(book, what));
+            default: return same("broken(" + book + ", " + i + ")", desk.broken(book, i), plain.broken(book, i));
+        }
+    }
+
+    private boolean asks() {
+        int which = chance.nextInt(20);
+        if (which < 6) return wholePairing();
+        if (which < 11) return wholeSets();
+        if (which < 14) return wholeExplanation();
+        return looks();
+    }
+
+    /** PAIRINGS and SETS last only until something is done, so what is made of them comes at once, mostly. */
+    private boolean does() {
+        int which = chance.nextInt(90);
+        if (which < 40) return comingLine();
+        if (which < 46) return wholePairing() && pairs();
+        if (which < 50) return wholeSets() && makesSet();
+        if (which < 52) return pairs();
+        if (which < 54) return makesSet();
+        if (which < 81) return byHand();
+        if (which < 84) return timesAndTerms();
+        return undoes();
     }
 
     private boolean run() {
         boolean good = true;
-        for (int call = 0; call < CALLS && good; call++) {
-            int which = chance.nextInt(100);
-            if (which < 35) good = comingLine();
-            else if (which < 41) good = wholePairing();
-            else if (which < 47) good = pairs();
-            else if (which < 51) good = wholeSets();
-            else if (which < 55) good = makesSet();
-            else if (which < 58) good = wholeExplanation();
-            else if (which < 85) good = byHand();
-            else if (which < 88) good = timesAndTerms();
-            else if (which < 94) good = undoes();
-            else good = looks();
-        }
+        for (int turn = 0; turn < CALLS && calls + MOST_AT_ONCE <= CALLS && good; turn++)
+            good = chance.nextInt(100) < curious ? asks() : does();
         return good;
     }
 

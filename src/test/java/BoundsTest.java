@@ -518,27 +518,35 @@ public final class BoundsTest extends DueAnswers {
 
     /**
      * Lines of both books at places, {amount, day} each, and all PAIRINGS of them of the greatest WORTH: for each
-     * place of book 0 its place of book 1, or -1. However the lines are numbered, the one that comes first is found.
+     * place of book 0 its place of book 1, or -1. However the lines are numbered, the one that comes first is found,
+     * and found again when it is asked for again.
      */
-    private static void firstOfThese(String shape, int[][] first, int[][] second, int[][] best, int worth) {
+    private static void firstOfThese(String shape, int[] terms, int[][] first, int[][] second, int[][] best, int worth) {
         for (int[] rows : numberings(first.length))
             for (int[] columns : numberings(second.length)) {
                 TwoBooks x = new TwoBooks();
-                x.terms(6, 10);
+                x.terms(terms[0], terms[1]);
                 for (int place : rows) x.line(0, first[place][0], first[place][1] * 10000, 1);
                 for (int place : columns) x.line(1, second[place][0], second[place][1] * 10000, 2);
-                due(shape, x.best(), worth);
-                int[] want = null;
-                for (int[] pairing : best) {
-                    int[] numbered = new int[rows.length];
-                    for (int a = 0; a < rows.length; a++) numbered[a] = numberOf(pairing[rows[a]], columns);
-                    if (want == null || Arrays.compare(numbered, want) < 0) want = numbered;
-                }
-                for (int a = 0; a < rows.length; a++) {
-                    due(shape + ", with(" + a + ")", x.with(a), want[a] == HIGH ? NONE : want[a]);
-                    due(shape + ", rival(" + a + ")", x.rival(a), want[a] == HIGH ? 1 : 0);
+                int[] want = firstNumbered(best, rows, columns);
+                for (int time = 0; time < 2; time++) {
+                    due(shape, x.best(), worth);
+                    for (int a = 0; a < rows.length; a++) {
+                        due(shape + ", with(" + a + ")", x.with(a), want[a] == HIGH ? NONE : want[a]);
+                        due(shape + ", rival(" + a + ")", x.rival(a), want[a] == HIGH ? 1 : 0);
+                    }
                 }
             }
+    }
+
+    private static int[] firstNumbered(int[][] pairings, int[] rows, int[] columns) {
+        int[] first = null;
+        for (int[] pairing : pairings) {
+            int[] numbered = new int[rows.length];
+            for (int a = 0; a < rows.length; a++) numbered[a] = numberOf(pairing[rows[a]], columns);
+            if (first == null || Arrays.compare(numbered, first) < 0) first = numbered;
+        }
+        return first;
     }
 
     /** The number of the line at a place; none counts as greater than all. */
@@ -547,21 +555,24 @@ public final class BoundsTest extends DueAnswers {
         return HIGH;
     }
 
-    private static void firstOfARing() {
+    /** Eight lines around a square, the corners of book 0, the middles of its sides of book 1: each fits its two neighbours. */
+    private static void firstOfARing(int coins, int days, int worth) {
         sentence("of several the one that comes first: by the least LINE of book 0 for which they differ");
-        // eight lines in a ring, the books by turns; each fits its two neighbours, by 100 or (6 days apart) by 88
-        int[][] first = {{100, 0}, {120, 0}, {120, 12}, {100, 12}};
-        int[][] second = {{110, 0}, {120, 6}, {110, 12}, {100, 6}};
-        firstOfThese("a ring", first, second, new int[][] {{0, 1, 2, 3}, {3, 0, 1, 2}}, 376);
+        int least = 100, middle = least + coins, most = middle + coins, last = 2 * days;
+        int[][] corners = {{least, 0}, {most, 0}, {most, last}, {least, last}};
+        int[][] sides = {{middle, 0}, {most, days}, {middle, last}, {least, days}};
+        firstOfThese("a ring", of(days, coins), corners, sides, new int[][] {{0, 1, 2, 3}, {3, 0, 1, 2}}, worth);
     }
 
+    /** Seven lines in a row, 6 days apart, the books by turns: each fits its neighbours, and one is left over. */
     private static void firstOfARow() {
         sentence("(none counts as greater than all)");
-        // seven lines in a row, the books by turns; each fits its neighbours, and one at an odd place is left over
         int[][] four = {{100, 0}, {100, 12}, {100, 24}, {100, 36}};
         int[][] three = {{100, 6}, {100, 18}, {100, 30}};
-        firstOfThese("a row, one of book 0 left over", four, three, new int[][] {{-1, 0, 1, 2}, {0, -1, 1, 2}, {0, 1, -1, 2}, {0, 1, 2, -1}}, 264);
-        firstOfThese("a row, one of book 1 left over", three, four, new int[][] {{0, 1, 2}, {0, 1, 3}, {0, 2, 3}, {1, 2, 3}}, 264);
+        int[][] without = {{-1, 0, 1, 2}, {0, -1, 1, 2}, {0, 1, -1, 2}, {0, 1, 2, -1}};
+        int[][] all = {{0, 1, 2}, {0, 1, 3}, {0, 2, 3}, {1, 2, 3}};
+        firstOfThese("a row, one of book 0 left over", of(6, 0), four, three, without, 3 * 88);
+        firstOfThese("a row, one of book 1 left over", of(6, 0), three, four, all, 3 * 88);
     }
 
     private static void noneIsGreaterThanAll() {
@@ -576,6 +587,10 @@ public final class BoundsTest extends DueAnswers {
         x.best();
         due("the lesser line is paired", x.with(0), 0);
         due("the greater is not", x.with(1), NONE);
+        x = desk(of(7, 7), of(9, 7));
+        x.best();
+        due("a line that it fits, ahead of none, though it is not the least one", x.with(0), 1);
+        due("none is left for the other", x.with(1), NONE);
         // fits: line 0 has one with 1, line 1 with 0 and 1: both can be paired
         x = new TwoBooks();
         x.line(0, 100, 50000, 1);
@@ -709,6 +724,20 @@ public final class BoundsTest extends DueAnswers {
         due("three are off by 2", x.sets(0, 0, 3, 2), 10);
         due("two are off by 3", x.sets(0, 0, 2, 3), 10);
         due("one is off by 4", x.sets(0, 0, 1, 4), 5);
+    }
+
+    private static void theLastFourOf80() {
+        sentence("sets of 1 to m BREAKS of the other book");
+        for (int book : of(0, 1)) {
+            TwoBooks x = new TwoBooks();
+            x.line(1 - book, 40, 90000, 0);
+            for (int i = 0; i < 80; i++) x.line(book, 10, i < 76 ? 0 : 90000, 0);
+            due("sets", x.sets(1 - book, 0, 4, 0), 1);
+            due("size", x.size(0), 4);
+            for (int j = 0; j < 4; j++) due("in(0, " + j + ")", x.in(0, j), 76 + j);
+            due("set", x.set(0), 0);
+            for (int i = 75; i < 80; i++) due("the GROUP of line " + i, x.told(book, i, 5), i < 76 ? -1 : 0);
+        }
     }
 
     private static void offByAtMost() {
@@ -1247,6 +1276,32 @@ public final class BoundsTest extends DueAnswers {
         due("LOCKED undone", x.lock(0, 1) * 10 + (x.undo() >= 0 ? x.group(0, 5) : -9), 0);
     }
 
+    /** A GROUP that is undone is not there for any call. */
+    private static void undoneGroupsAreGone() {
+        sentence("A LINE, or GROUP, whose coming is undone is gone");
+        TwoBooks x = desk(of(5, 6), of(5, 9));
+        x.hand(0, 1);
+        due("it is learnt from", x.fit(0, 0), 140);
+        x.undo();
+        due("it is not learnt from", x.fit(0, 0), 130);
+        for (int what = 0; what < 6; what++) due("group(0, " + what + ")", x.group(0, what), NO_GROUP);
+        due("part", x.part(0), NONE);
+        due("lock", x.lock(0, 1), NONE);
+        due("join", x.join(0, 0, 1), NONE);
+        due("acts", x.count(4), 4);
+        due("GROUPS made and there", x.count(2) + x.count(3), 0);
+        due("DIFFERENCES", x.sum(3), 0);
+        due("GROUPS as of today", x.as(0, 2), 0);
+        due("BREAKS as of today", x.as(0, 0), 4);
+        // -3 of 5, 6, -5, -9 and no GROUP of -4: {6, -9}
+        due("explain", x.explain(), 2);
+        due("its first", x.explained(0, 0) * 10 + x.explained(0, 1), 1);
+        due("its second", x.explained(1, 0) * 10 + x.explained(1, 1), 11);
+        many(many(x, 0, 8, 1), 1, 6, 1);
+        due("18 BREAKS and none besides", x.explain() >= 0 ? 1 : 0, 1);
+        due("check", x.check(), 0);
+    }
+
     // ---- answers
 
     private static void theFirstThatACallNames() {
@@ -1373,13 +1428,13 @@ public final class BoundsTest extends DueAnswers {
         differenceOfTheBooks(); anotherSum();
         termsAtFirst(); daysApart(); coinsApart(); twoMarks(); wholeHundreds(); oneWord(); atLeastOne();
         handsCounted(); handsOfOtherWords(); onlyHandsAreLearntFrom();
-        fourteenOfEach(); greatestWorth(); firstOfSeveral(); firstOfARing(); firstOfARow(); noneIsGreaterThanAll();
+        fourteenOfEach(); greatestWorth(); firstOfSeveral(); firstOfARing(10, 6, 2 * 100 + 2 * 88); firstOfARing(10000, 90, 4); firstOfARow(); noneIsGreaterThanAll();
         rivals(); rivalsOfEachPair(); atMostSure(); pairUpToFull(); oneActForEach();
-        oneToM(); offByAtMost(); offInTwosThreesAndFours(); setsWithinSpan(); orderOfSets(); upToThe5000th(); setOfFive(); toldSets();
+        oneToM(); theLastFourOf80(); offByAtMost(); offInTwosThreesAndFours(); setsWithinSpan(); orderOfSets(); upToThe5000th(); setOfFive(); toldSets();
         the200thGroup(); eightLines(); joinedSet(); lockIs();
         ages(); theIthBreak(); asOfADay(); groupsAsOfADay();
         eighteenAtMost(); eighteenGroups(); theFewestAndTheFirst(); nothingToExplain(); theJthExplained(); greatExplanations();
-        sevenActs(); sixtyActs(); pairsAndTheSixty(); undoingEnds(); numbersAnew();
+        sevenActs(); sixtyActs(); pairsAndTheSixty(); undoingEnds(); numbersAnew(); undoneGroupsAreGone();
         theFirstThatACallNames(); theFirstOfAFullDesk(); theLastCalls(); counts(); noSuchLine(); noSuchGroup();
         end("all bounds are kept");
     }

@@ -299,6 +299,10 @@ public final class RefusalsTest extends DueAnswers {
         ends("lock", x -> x.lock(2, 1), 0);
         ends("unlock", x -> x.lock(1, 0), 1);
         ends("undo", x -> x.undo(), 7);
+        ends("a line that is undone", x -> x.line(0, 5, 0, 0) + x.undo(), 8 + 8);
+        ends("a day and then a line", x -> x.today(8) + x.line(0, 5, 0, 0), 7 + 8);
+        ends("a line and then a day", x -> x.line(0, 5, 0, 0) + x.today(8), 8 + 7);
+        ends("other terms and back again", x -> x.terms(7, 21) + x.terms(6, 20), 2);
     }
 
     /** A pair() that is refused leaves the PAIRING, so that a surer one can still be carried out. */

@@ -1280,7 +1280,7 @@ public final class BoundsTest extends DueAnswers {
     private static void undoneGroupsAreGone() {
         sentence("A LINE, or GROUP, whose coming is undone is gone");
         TwoBooks x = desk(of(5, 6), of(5, 9));
-        x.hand(0, 1);
+        x.hand(1, 1);
         due("it is learnt from", x.fit(0, 0), 140);
         x.undo();
         due("it is not learnt from", x.fit(0, 0), 130);
@@ -1293,7 +1293,7 @@ public final class BoundsTest extends DueAnswers {
         due("DIFFERENCES", x.sum(3), 0);
         due("GROUPS as of today", x.as(0, 2), 0);
         due("BREAKS as of today", x.as(0, 0), 4);
-        // -3 of 5, 6, -5, -9 and no GROUP of -4: {6, -9}
+        // -3 of 5, 6, -5, -9, and no GROUP of -3: {6, -9}
         due("explain", x.explain(), 2);
         due("its first", x.explained(0, 0) * 10 + x.explained(0, 1), 1);
         due("its second", x.explained(1, 0) * 10 + x.explained(1, 1), 11);

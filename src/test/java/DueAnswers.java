@@ -40,7 +40,7 @@ abstract class DueAnswers {
         if (got != want) miss(what + " answered " + got + ", due is " + want);
     }
 
-    private static void miss(String how) {
+    static void miss(String how) {
         wrong++;
         System.out.println(saying + ": " + how);
     }
